@@ -682,10 +682,9 @@ public final class ShellMoney {
 
         private int leastGradeWithin(int from, int n) {
             int least = NONE;
-            for (int k = 0; k < n; k++) {
-                int grade = gradeAt(from + k);
-                if (least == NONE || grade < least) {
-                    least = grade;
+            for (int i = from; i < from + n && has(i); i++) {
+                if (least == NONE || grades[i] < least) {
+                    least = grades[i];
                 }
             }
             return least;

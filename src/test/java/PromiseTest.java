@@ -42,6 +42,7 @@ public final class PromiseTest {
         count();
         heap();
         strung();
+        stringsAndPartByThemselves();
         strungAmongEquals();
         strungByRatesNow();
         CHECK.close();
@@ -165,12 +166,14 @@ public final class PromiseTest {
         due("MAKER cut off", x.bead(1, 3, 1), 2);
         due("at its last place", x.cut(1, 3), 2);
         due("one BEAD", x.cut(2, 1), NONE);
+        due("at its first place but one", x.cut(1, 1), 3);
+        due("joined again", x.join(1, 3), 3);
         due("count(6)", x.count(6), 7);
-        for (int k = 3; k < 40; k++) {
+        for (int k = 4; k < 40; k++) {
             x.string(0, 0, 0, 2);
         }
-        due("with 40", x.cut(3, 1), NONE);
-        due("BEADS then", of(x, 3, 0), 2);
+        due("with 40", x.cut(4, 1), NONE);
+        due("BEADS then", of(x, 4, 0), 2);
         x.join(0, 1);
         due("a GONE one", x.cut(1, 1), NONE);
     }
@@ -459,6 +462,15 @@ public final class PromiseTest {
         due("BEADS", of(x, 0, 0), 10);
         due("cut", x.cut(0, 5), 2);
         due("EVENTS", x.count(5), 200);
+
+        x = fresh("a TALE that takes one NAME more");
+        x.string(0, 2, 0, 10);
+        x.string(0, 2, 0, 10);
+        x.name(0, 1);
+        tellEvents(x, 0, 199);
+        due("name", x.name(1, 2), true);
+        due("EVENTS", x.count(5), 200);
+        due("cut of a NAMED one", x.cut(1, 5), NONE);
     }
 
     private static void set() {
@@ -603,6 +615,11 @@ public final class PromiseTest {
     private static void blame() {
         ShellMoney x = fresh("promise 18");
         due("no STRINGS", x.blame(4), NONE);
+        x.string(0, 0, 0, 1);
+        due("one BEAD", x.blame(1), 0);
+        due("none below 0", x.blame(0), NONE);
+
+        x = fresh("promise 18, more STRINGS");
         x.string(0, 1, 9, 5);
         x.string(1, 0, 4, 3);
         x.string(2, 3, 2, 8);
@@ -875,6 +892,9 @@ public final class PromiseTest {
         for (int what = 0; what < due.length; what++) {
             due("count(" + what + ")", x.count(what), due[what]);
         }
+        x.string(0, 1, 0, 1);
+        x.join(3, 0);
+        due("the first one GONE too", x.count(1), 2);
         due("count(8)", x.count(8), NONE);
         due("count(-1)", x.count(-1), NONE);
     }
@@ -930,6 +950,18 @@ public final class PromiseTest {
         parts(x, 106, 9, 1);
         x.set(1, 3, 37);
         parts(x, 107, 10);
+    }
+
+    private static void stringsAndPartByThemselves() {
+        ShellMoney x = fresh("promises 28, 29, without strung()");
+        x.heap(4, 3);
+        x.heap(0, 2);
+        due("strings()", x.strings(), 2);
+        x.heap(2, 4);
+        due("part(1)", x.part(1), 4);
+        x.heap(0, 0);
+        due("part(2)", x.part(2), NONE);
+        due("strings()", x.strings(), 2);
     }
 
     private static void strungAmongEquals() {
