@@ -245,7 +245,8 @@ public final class ShellMoney {
 
     public int cheat(int string, int grade) {
         Strand s = strandAt(string);
-        if (s == null || !isGrade(grade)) {
+        // Any number is a bound here: the document turns none away, as blame() does.
+        if (s == null) {
             return NONE;
         }
         for (int i = 0; i < s.length; i++) {

@@ -294,7 +294,7 @@ final class Model {
 
     private int cheat(int string, int grade) {
         Row r = row(string);
-        for (int i = 0; r != null && within(grade, 0, 4) && i < r.beads.size(); i++) {
+        for (int i = 0; r != null && i < r.beads.size(); i++) {
             if (r.beads.get(i)[0] < grade) {
                 return i;
             }

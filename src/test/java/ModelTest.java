@@ -121,7 +121,7 @@ public final class ModelTest {
             case "tale": return new int[] {name(), upTo(random.nextBoolean() ? 3 : 50), upTo(2)};
             case "set": return pickSetting();
             case "drawn": return new int[] {s, place(s), upTo(random.nextBoolean() ? 3 : lengths)};
-            case "cheat": return new int[] {s, upTo(GRADE)};
+            case "cheat": return new int[] {s, upTo(GRADE + 4)};
             case "serves": return new int[] {owner, sum(owner)};
             case "pay": return new int[] {owner, owner(), sum(owner)};
             case "owe": return new int[] {owner, owner(), pickSpans(), upTo(GRADE)};

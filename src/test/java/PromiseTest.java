@@ -600,16 +600,22 @@ public final class PromiseTest {
         due("cheat(0, 2)", x.cheat(0, 2), 5);
         due("cheat(0, 1)", x.cheat(0, 1), 5);
         due("cheat(0, 0)", x.cheat(0, 0), NONE);
-        due("cheat(0, 5)", x.cheat(0, 5), NONE);
+        due("cheat(0, 5)", x.cheat(0, 5), 0);
+        due("cheat(0, HIGH)", x.cheat(0, HIGH), 0);
         due("cheat(0, -1)", x.cheat(0, -1), NONE);
+        due("cheat(0, LOW)", x.cheat(0, LOW), NONE);
         due("cheat(1, 4)", x.cheat(1, 4), NONE);
         due("cheat(-1, 4)", x.cheat(-1, 4), NONE);
+        due("cheat(1, 8)", x.cheat(1, 8), NONE);
+        due("cheat(-1, HIGH)", x.cheat(-1, HIGH), NONE);
         x.turn(0);
         due("turned", x.cheat(0, 4), 0);
         x.string(0, 4, 0, 1);
         due("none is", x.cheat(1, 4), NONE);
+        due("all are below 5", x.cheat(1, 5), 0);
         x.join(1, 0);
         due("GONE", x.cheat(0, 4), NONE);
+        due("GONE, above 4", x.cheat(0, 8), NONE);
     }
 
     private static void blame() {
