@@ -1,4 +1,3 @@
-import java.util.Arrays;
 import java.util.Random;
 
 /** Long runs of calls, from fixed seeds, on ShellMoney and on Model: every answer must be the same. */
@@ -41,8 +40,8 @@ public final class ModelTest {
             String name = pickCall();
             int[] a = pickArguments(name);
             int before = check.wrong();
-            check.due("seed " + seed + ", call " + k + ": " + name + Arrays.toString(a),
-                    callReal(name, a), model.call(name, a));
+            check.due("seed " + seed + ", call " + k + ": " + Face.text(name, a),
+                    Face.call(real, name, a), model.call(name, a));
             if (check.wrong() > before) {
                 return;
             }
@@ -156,38 +155,5 @@ public final class ModelTest {
         // Small numbers make ties and floods; the ends of the range show its edges.
         int v = random.nextInt(3) == 0 ? upTo(range) : upTo(Math.min(range, 12));
         return new int[] {what, upTo(GRADE), v};
-    }
-
-    private int callReal(String name, int[] a) {
-        switch (name) {
-            case "string": return real.string(a[0], a[1], a[2], a[3]);
-            case "add": return real.add(a[0], a[1], a[2], a[3]);
-            case "cut": return real.cut(a[0], a[1]);
-            case "join": return real.join(a[0], a[1]);
-            case "turn": return real.turn(a[0]) ? 1 : 0;
-            case "name": return real.name(a[0], a[1]) ? 1 : 0;
-            case "give": return real.give(a[0], a[1]) ? 1 : 0;
-            case "of": return Check.of(real, a[0], a[1]);
-            case "bead": return real.bead(a[0], a[1], a[2]);
-            case "named": return real.named(a[0]);
-            case "tale": return real.tale(a[0], a[1], a[2]);
-            case "set": return real.set(a[0], a[1], a[2]);
-            case "rate": return real.rate(a[0]);
-            case "rich": return real.rich(a[0]);
-            case "drawn": return real.drawn(a[0], a[1], a[2]);
-            case "cheat": return real.cheat(a[0], a[1]);
-            case "blame": return real.blame(a[0]);
-            case "serves": return real.serves(a[0], a[1]);
-            case "pay": return real.pay(a[0], a[1], a[2]);
-            case "owe": return real.owe(a[0], a[1], a[2], a[3]);
-            case "settle": return real.settle(a[0], a[1]) ? 1 : 0;
-            case "debt": return real.debt(a[0], a[1]);
-            case "year": return real.year();
-            case "count": return real.count(a[0]);
-            case "heap": return real.heap(a[0], a[1]) ? 1 : 0;
-            case "strung": return real.strung();
-            case "strings": return real.strings();
-            default: return real.part(a[0]);
-        }
     }
 }
